@@ -1,0 +1,18 @@
+/** Runs every test of the project; ends with exit code 1 if an answer was not the one that is due. */
+public final class AllTests {
+    private AllTests() {
+    }
+
+    public static void main(String[] args) throws Exception {
+        PlatesTest.run();
+        SettingsTest.run();
+        PairTest.run();
+        AllPlatesTest.run();
+        SearchTest.run();
+        HistoryTest.run();
+        RandomRunsTest.run();
+        LanguageTest.run();
+        System.out.println(Check.right() + " answers right, " + Check.wrong() + " wrong");
+        System.exit(Check.wrong() == 0 && Check.right() > 0 ? 0 : 1);
+    }
+}
