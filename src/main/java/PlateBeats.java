@@ -450,6 +450,16 @@ public final class PlateBeats {
 
     // ---- numbers
 
+    /** The real part of (a + bi) * conj(p + qi). */
+    private static int realPart(int p, int q, int a, int b) {
+        return a * p + b * q;
+    }
+
+    /** The imaginary part of (a + bi) * conj(p + qi). */
+    private static int imaginaryPart(int p, int q, int a, int b) {
+        return b * p - a * q;
+    }
+
     private static long gcd(long first, long second) {
         long a = first;
         long b = second;
@@ -537,20 +547,10 @@ public final class PlateBeats {
             }
         }
 
-        /** The real part of (a + bi) * conj(z). */
-        private int realPart(int plate, int a, int b) {
-            return a * pOf(plate) + b * qOf(plate);
-        }
-
-        /** The imaginary part of (a + bi) * conj(z). */
-        private int imaginaryPart(int plate, int a, int b) {
-            return b * pOf(plate) - a * qOf(plate);
-        }
-
         /** The square of (a + bi) / conj(z(i)) - (c + di) / conj(z(j)), times both areas. */
         private int pairNorm(int i, int j, int a, int b, int c, int d) {
-            int x = realPart(j, a, b) - realPart(i, c, d);
-            int y = imaginaryPart(j, a, b) - imaginaryPart(i, c, d);
+            int x = realPart(pOf(j), qOf(j), a, b) - realPart(pOf(i), qOf(i), c, d);
+            int y = imaginaryPart(pOf(j), qOf(j), a, b) - imaginaryPart(pOf(i), qOf(i), c, d);
             return x * x + y * y;
         }
     }
@@ -563,8 +563,8 @@ public final class PlateBeats {
         private final int[] norms = new int[MAX_NORMS];
         private int size;
         private long areas = 1;
-        private long fineSquare = 1;
-        private long longSquare = 1;
+        private long leastFine = 1;
+        private long greatestLong = 1;
 
         private void startPair(State state, int i, int j) {
             start(state, (long) state.areaOf(i) * state.areaOf(j));
@@ -573,8 +573,10 @@ public final class PlateBeats {
         private void start(State state, long productOfAreas) {
             size = 0;
             areas = productOfAreas;
-            fineSquare = (long) state.fineLimit * state.fineLimit;
-            longSquare = (long) state.longLimit * state.longLimit;
+            long fineSquare = (long) state.fineLimit * state.fineLimit;
+            long longSquare = (long) state.longLimit * state.longLimit;
+            leastFine = divided(areas + fineSquare - 1, fineSquare);
+            greatestLong = divided(areas, longSquare);
         }
 
         private void add(int norm) {
@@ -593,11 +595,18 @@ public final class PlateBeats {
             }
         }
 
+        /** The same as pairNorm for all c and d, with what does not change taken out of the loops: the search needs it. */
         private void addAllFor(State state, int i, int j, int a, int b) {
+            int p = state.pOf(i);
+            int q = state.qOf(i);
+            int firstX = realPart(state.pOf(j), state.qOf(j), a, b);
+            int firstY = imaginaryPart(state.pOf(j), state.qOf(j), a, b);
             for (int c = -state.order; c <= state.order; c++) {
                 for (int d = -state.order; d <= state.order; d++) {
                     if (c != 0 || d != 0) {
-                        add(state.pairNorm(i, j, a, b, c, d));
+                        int x = firstX - realPart(p, q, c, d);
+                        int y = firstY - imaginaryPart(p, q, c, d);
+                        add(x * x + y * y);
                     }
                 }
             }
@@ -661,10 +670,10 @@ public final class PlateBeats {
             if (norm == 0) {
                 return KIND_LOCKED;
             }
-            if (norm * fineSquare >= areas) {
+            if (norm >= leastFine) {
                 return KIND_FINE;
             }
-            return norm * longSquare <= areas ? KIND_LONG : KIND_BAND;
+            return norm <= greatestLong ? KIND_LONG : KIND_BAND;
         }
 
         private int bandCount() {

@@ -10,6 +10,7 @@ final class AllPlatesTest {
         allBands();
         worstBand();
         worstTriple();
+        narrowLimits();
         worstPair();
     }
 
@@ -85,6 +86,26 @@ final class AllPlatesTest {
         y.setLimits(4, 5);
         Check.due("27: a pair before a triple", y.worstPlates(), 3);
         Check.due("28: both 4", y.worstPeriod(), 4);
+    }
+
+    private static PlateBeats narrow(int[] first, int[] second, int fine, int longLimit) {
+        PlateBeats x = new PlateBeats();
+        x.addPlate(first[0], first[1]);
+        x.addPlate(second[0], second[1]);
+        x.setLimits(fine, longLimit);
+        return x;
+    }
+
+    private static void narrowLimits() {
+        PlateBeats x = narrow(new int[] {5, 2}, new int[] {1, 3}, 17, 18);
+        Check.due("26: 1/290 is just not fine", x.allBands(), 4);
+        Check.due("28: 1/290", x.worstPeriod(), 17);
+        PlateBeats y = narrow(new int[] {8, 0}, new int[] {6, 7}, 5, 6);
+        Check.due("26: 197/5440 alone", y.allBands(), 4);
+        Check.due("28: 197/5440", y.worstPeriod(), 5);
+        PlateBeats z = narrow(new int[] {4, 3}, new int[] {3, 4}, 1, 2);
+        Check.due("27: between 1/4 and 1", z.worstPlates(), 3);
+        Check.due("28: the smallest period", z.worstPeriod(), 1);
     }
 
     private static void worstPair() {

@@ -9,7 +9,9 @@ final class SearchTest {
         onePlate();
         badRanges();
         fewestBands();
+        smallerQ();
         sameAsTrying();
+        widestRange();
     }
 
     private static void best(PlateBeats x, int plate, int low, int high, int screen, int bands) {
@@ -62,6 +64,34 @@ final class SearchTest {
         Check.due("31: nothing is set", x.allBands(), 208);
         x.setScreen(3, 4, 4);
         Check.due("31: set", x.allBands(), 196);
+    }
+
+    /** (4, 0) and (4, 2) make no bands; the areas 16 and 20 are equally near to 18. */
+    private static void smallerQ() {
+        PlateBeats x = new PlateBeats();
+        x.addPlate(3, 1);
+        x.addPlate(3, 3);
+        x.setLimits(4, 5);
+        best(x, 1, 9, 27, 400, 0);
+        best(x, 1, 17, 27, 402, 0);
+    }
+
+    private static void widestRange() {
+        PlateBeats x = new PlateBeats();
+        Reference y = new Reference();
+        int[][] screens = {{9, 4}, {11, 3}};
+        for (int[] screen : screens) {
+            x.addPlate(screen[0], screen[1]);
+            y.addPlate(screen[0], screen[1]);
+        }
+        for (int plate = 0; plate < 2; plate++) {
+            int[] due = y.best(plate, 1, 800);
+            best(x, plate, 1, 800, due[0], due[1]);
+        }
+        x.setLimits(20, 10000);
+        y.setLimits(20, 10000);
+        int[] due = y.best(0, 100, 800);
+        best(x, 0, 100, 800, due[0], due[1]);
     }
 
     /** The best screen is found again by trying all of them with setScreen. */
