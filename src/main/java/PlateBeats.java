@@ -334,20 +334,24 @@ public final class PlateBeats {
     // ---- search
 
     public int bestScreen(int plate, int low, int high) {
-        if (!present.has(plate) || low < 1 || high < low || high > MAX_AREA) {
-            return INVALID_ARGUMENT;
-        }
-        return search(plate, low, high);
+        return present.has(plate) && isRange(low, high) ? search(plate, low, high) : INVALID_ARGUMENT;
     }
 
     public int bandsWithBest(int plate, int low, int high) {
-        int best = bestScreen(plate, low, high);
-        if (best < 0) {
-            return best;
+        if (!present.has(plate) || !isRange(low, high)) {
+            return INVALID_ARGUMENT;
+        }
+        int best = search(plate, low, high);
+        if (best == NONE) {
+            return NONE;
         }
         copy(present, trial);
         trial.put(plate, best / 100, best % 100);
         return bandsOfGroups(trial, 0);
+    }
+
+    private static boolean isRange(int low, int high) {
+        return low >= 1 && high >= low && high <= MAX_AREA;
     }
 
     /** Only the bands with the plate are compared: its screen does not change the others. */
@@ -420,8 +424,10 @@ public final class PlateBeats {
         if (historyCount >= MAX_HISTORY) {
             dropOldest();
         }
-        copy(present, history[historyCount]);
-        historyCount++;
+        if (historyCount >= 0 && historyCount < MAX_HISTORY) {
+            copy(present, history[historyCount]);
+            historyCount++;
+        }
     }
 
     /** The dropped state's object goes to the end, to be written again. */
@@ -521,7 +527,7 @@ public final class PlateBeats {
         }
 
         private int areaOf(int plate) {
-            return pOf(plate) * pOf(plate) + qOf(plate) * qOf(plate);
+            return has(plate) ? p[plate] * p[plate] + q[plate] * q[plate] : 0;
         }
 
         private void put(int plate, int newP, int newQ) {

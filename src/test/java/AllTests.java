@@ -10,6 +10,16 @@ public final class AllTests {
         AllPlatesTest.run();
         SearchTest.run();
         HistoryTest.run();
+        PlateBoundaries.run();
+        SettingBoundaries.run();
+        PairBoundaries.run();
+        RankBoundaries.run();
+        AllPlateBoundaries.run();
+        SearchBoundaries.run();
+        HistoryBoundaries.run();
+        ErrorBoundaries.run();
+        LifeBoundaries.run();
+        Boundary.checkAll();
         RandomRunsTest.run();
         LanguageTest.run();
         System.out.println(Check.right() + " answers right, " + Check.wrong() + " wrong");
