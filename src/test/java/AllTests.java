@@ -22,6 +22,7 @@ public final class AllTests {
         Boundary.checkAll();
         RandomRunsTest.run();
         LanguageTest.run();
+        LanguageTreeTest.run();
         System.out.println(Check.right() + " answers right, " + Check.wrong() + " wrong");
         System.exit(Check.wrong() == 0 && Check.right() > 0 ? 0 : 1);
     }

@@ -115,13 +115,13 @@ final class SearchBoundaries {
                 .beyond("its own one is too high", alone(5, 0).bestScreen(0, 1, 24), 204);
     }
 
-    /** With limits that leave the square 1 / 100 as the only band: (10, 0) twice makes 16 bands, (9, 0) and (10, 0) none. */
+    /** Of its own area 5, (1, 2) and (2, 1) make 8 bands; (2, 0), whose area is 4, makes 4. */
     private static void fewest() {
         PlateBeats x = Planners.limited(3, 7, 5, 4, 2, 1);
         PlateBeats y = Planners.limited(9, 11, 10, 0, 10, 0);
         new Boundary("makes the bands of all plates fewest", 30, 31)
-                .within("4 bands fewer, the area nearer by 1: screen", x.bestScreen(1, 3, 9), 200)
-                .within("4 bands fewer, the area nearer by 1: bands", x.bandsWithBest(1, 3, 9), 4)
+                .within("4 bands with area 4, 8 with area 5: screen", x.bestScreen(1, 3, 9), 200)
+                .within("4 bands with area 4, 8 with area 5: bands", x.bandsWithBest(1, 3, 9), 4)
                 .beyond("without it: screen", x.bestScreen(1, 5, 9), 102)
                 .beyond("without it: bands", x.bandsWithBest(1, 5, 9), 8)
                 .beyond("16 bands with its own one", y.allBands(), 16)
@@ -174,7 +174,7 @@ final class SearchBoundaries {
                 .within("one plate, 105 and 501", alone(5, 1).bestScreen(0, 26, 26), 105);
     }
 
-    /** Equally few bands, equally near, the same p: 16 and 20 about 18; 16 and 20 about 17 + 1; 37 and 45 about 41. */
+    /** Equally few bands, equally near, the same p: 16 and 20 about 18, once without bands and once with 8; 37 and 45 about 41. */
     private static void smallerQ() {
         PlateBeats a = Planners.limited(4, 5, 3, 1, 3, 3);
         PlateBeats b = Planners.limited(4, 10, 3, 3, 4, 1);
