@@ -217,7 +217,8 @@ final class AllPlateBoundaries {
             {1, 4, 5, 3, 5, 7, 3, 2, 10, 22, 6, 15}, {2, 4, 1, 5, 2, 4, 5, 2, 8, 13, 10, 12},
             {2, 5, 5, 9, 7, 9, 10, 5, 9, 25, 12, 20}, {5, 8, 1, 3, 1, 4, 5, 8, 1, 9, 11, 8},
             {3, 0, 6, 9, 10, 6, 3, 0, 6, 16, 13, 11}, {6, 7, 7, 4, 10, 6, 2, 9, 7, 21, 14, 20}};
-        Boundary b = new Boundary("of several the first one in the following order", 27, 28);
+        Boundary b = new Boundary("of several the first one in the following order: those of pairs come before those of triples; "
+                + "pairs and triples are ordered by their first plate, then by the second one, then by the third one.", 27, 28);
         for (int[] row : equal) {
             b.within("plates of two equal ones", ofRow(row).worstPlates(), row[PLATES]);
             b.within("period of two equal ones", ofRow(row).worstPeriod(), row[PERIOD]);

@@ -19,7 +19,14 @@ public final class AllTests {
         HistoryBoundaries.run();
         ErrorBoundaries.run();
         LifeBoundaries.run();
+        FaceTest.run();
+        TermSentences.run();
+        PromiseSentences.run();
         Boundary.checkAll();
+        Sentence.checkAll();
+        Quotes.checkAll();
+        DocumentTest.run();
+        ReadmeTest.run();
         RandomRunsTest.run();
         LanguageTest.run();
         LanguageTreeTest.run();

@@ -1,5 +1,3 @@
-import java.nio.file.Files;
-import java.nio.file.Path;
 import java.util.ArrayList;
 import java.util.List;
 import java.util.TreeSet;
@@ -10,55 +8,42 @@ import java.util.TreeSet;
  */
 final class Boundary {
     private static final List<Boundary> ALL = new ArrayList<>();
-    private static final int PROMISES = 35;
-    private final String sentence;
-    private final int[] promises;
+    private final Quotes.Quote quote;
     private int within;
     private int beyond;
 
     Boundary(String sentence, int... promises) {
-        this.sentence = sentence;
-        this.promises = promises;
+        quote = Quotes.add(sentence, promises);
         ALL.add(this);
     }
 
     /** A value on the boundary's inner side: the case that the sentence names. */
     Boundary within(String value, long got, long due) {
         within++;
-        Check.due(text() + ": " + value, got, due);
+        Check.due(quote.text() + ": " + value, got, due);
         return this;
     }
 
     /** A value on the boundary's other side. */
     Boundary beyond(String value, long got, long due) {
         beyond++;
-        Check.due(text() + ": " + value, got, due);
+        Check.due(quote.text() + ": " + value, got, due);
         return this;
     }
 
-    private String text() {
-        StringBuilder text = new StringBuilder(promises.length == 1 ? "Promise" : "Promises");
-        for (int promise : promises) {
-            text.append(' ').append(promise);
-        }
-        return text.append(": \"").append(sentence).append('"').toString();
-    }
-
-    /** After all tests: every one has both sides, quotes the document, and is the only one; no promise is left out. */
-    static void checkAll() throws Exception {
-        String document = Files.readString(Path.of("../shared/DOC.md")).replaceAll("\\s+", " ");
+    /** After all tests: every one has both sides and is the only one; no promise is left out. */
+    static void checkAll() {
         TreeSet<String> texts = new TreeSet<>();
         TreeSet<Integer> named = new TreeSet<>();
         for (Boundary b : ALL) {
-            Check.holds(b.text() + ": a value within", b.within > 0);
-            Check.holds(b.text() + ": a value beyond", b.beyond > 0);
-            Check.holds(b.text() + ": words of the document", document.contains(b.sentence));
-            Check.holds(b.text() + ": one test alone", texts.add(b.text()));
-            for (int promise : b.promises) {
+            Check.holds(b.quote.text() + ": a value within", b.within > 0);
+            Check.holds(b.quote.text() + ": a value beyond", b.beyond > 0);
+            Check.holds(b.quote.text() + ": one test alone", texts.add(b.quote.text()));
+            for (int promise : b.quote.promises()) {
                 named.add(promise);
             }
         }
-        Check.due("promises with a boundary", named.size(), PROMISES);
+        Check.due("promises with a boundary", named.size(), Document.PROMISES);
         System.out.println(ALL.size() + " boundaries");
     }
 }

@@ -15,7 +15,8 @@ final class LifeBoundaries {
     private static void sameSearch() {
         PlateBeats x = Planners.of(5, 5, 7, 2, 2, 7, 6, 0);
         x.setOrder(2);
-        Boundary b = new Boundary("An object is used for at most 512 calls after it has been made", 30, 31);
+        Boundary b = new Boundary("An object is used for at most 512 calls after it has been made; "
+                + "what later calls answer is free.", 30, 31);
         long wrong = 0;
         for (int call = 6; call < CALLS; call++) {
             wrong += x.bestScreen(3, 30, 60) == 404 ? 0 : 1;
@@ -79,7 +80,7 @@ final class LifeBoundaries {
     private static void mixedCalls() {
         PlateBeats x = new PlateBeats();
         Reference y = new Reference();
-        Boundary b = new Boundary("nothing about an object after its 512th call", 1);
+        Boundary b = new Boundary("and nothing about an object after its 512th call.", 1);
         for (int call = 1; call <= CALLS; call++) {
             b.within("call " + call, anyCall(x, call), anyCall(y, call));
         }

@@ -119,10 +119,15 @@ final class RankBoundaries {
             PlateBeats x = Planners.of(9, 4, 11, 3);
             x.setOrder(order);
             int count = x.beatCount(0, 1);
-            for (int rank = 1; rank < count; rank++) {
-                long left = x.beatNumerator(0, 1, rank - 1) * x.beatDenominator(0, 1, rank);
-                long right = x.beatNumerator(0, 1, rank) * x.beatDenominator(0, 1, rank - 1);
-                b.within("rank " + rank + " is greater than the one before it", left < right ? 1 : 0, 1);
+            long numerator = 0;
+            long denominator = 1;
+            for (int rank = 0; rank < count; rank++) {
+                long nextNumerator = x.beatNumerator(0, 1, rank);
+                long nextDenominator = x.beatDenominator(0, 1, rank);
+                boolean greater = numerator * nextDenominator < nextNumerator * denominator;
+                b.within("rank " + rank + " is greater than the one before it", greater ? 1 : 0, 1);
+                numerator = nextNumerator;
+                denominator = nextDenominator;
             }
             b.within("the last one is there", x.beatNumerator(0, 1, count - 1) > 0 ? 1 : 0, 1);
             b.beyond("one more is not there", x.beatNumerator(0, 1, count), NONE);
@@ -192,7 +197,8 @@ final class RankBoundaries {
 
     /** Squares at, just below and just above 1 over a square number. */
     private static void periods() {
-        new Boundary("is the greatest number whose square is at most 1 / S", 22)
+        new Boundary("The period of a combination whose square is S, greater than 0, "
+                + "is the greatest number whose square is at most 1 / S.", 22)
                 .within("1 / S is 100", periodOf(Planners.of(1, 3, 2, 4), 1, 100), 10)
                 .within("1 / S is 100.001", periodOf(Planners.of(6, 19, 13, 8), 925, 92501), 10)
                 .beyond("1 / S is 99.996", periodOf(Planners.of(6, 15, 18, 17), 1600, 159993), 9)

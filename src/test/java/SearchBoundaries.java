@@ -107,7 +107,7 @@ final class SearchBoundaries {
     }
 
     private static void areaInRange() {
-        new Boundary("is a cell vector whose area is in this range", 30)
+        new Boundary("The best screen for a plate, with areas from low to high, is a cell vector whose area is in this range.", 30)
                 .within("its own one is", alone(5, 1).bestScreen(0, 26, 26), 105)
                 .within("its own one is the lowest", alone(5, 0).bestScreen(0, 25, 800), 304)
                 .beyond("its own one is too low", alone(5, 0).bestScreen(0, 26, 800), 105)
@@ -119,7 +119,7 @@ final class SearchBoundaries {
     private static void fewest() {
         PlateBeats x = Planners.limited(3, 7, 5, 4, 2, 1);
         PlateBeats y = Planners.limited(9, 11, 10, 0, 10, 0);
-        new Boundary("makes the bands of all plates fewest", 30, 31)
+        new Boundary("It is the one with which the plate, in place of its own one, makes the bands of all plates fewest", 30, 31)
                 .within("4 bands with area 4, 8 with area 5: screen", x.bestScreen(1, 3, 9), 200)
                 .within("4 bands with area 4, 8 with area 5: bands", x.bandsWithBest(1, 3, 9), 4)
                 .beyond("without it: screen", x.bestScreen(1, 5, 9), 102)

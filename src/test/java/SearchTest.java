@@ -94,12 +94,9 @@ final class SearchTest {
         best(x, 0, 100, 800, due[0], due[1]);
     }
 
-    /** The best screen is found again by trying all of them with setScreen. */
+    /** The best screen is found again by trying all of them with setScreen, each on a new object. */
     private static void sameAsTrying() {
-        PlateBeats x = new PlateBeats();
-        x.addPlate(9, 4);
-        x.addPlate(11, 3);
-        x.addPlate(8, 8);
+        PlateBeats x = Planners.of(9, 4, 11, 3, 8, 8);
         for (int plate = 0; plate < 3; plate++) {
             int own = x.cellArea(plate);
             int found = x.bestScreen(plate, 60, 300);
@@ -108,10 +105,10 @@ final class SearchTest {
             for (int p = 1; p <= 20; p++) {
                 for (int q = 0; q <= 20; q++) {
                     if (p * p + q * q >= 60 && p * p + q * q <= 300) {
-                        x.setScreen(plate, p, q);
-                        long rank = (x.allBands() * 1000L + Math.abs(p * p + q * q - own)) * 10000 + 100 * p + q;
+                        PlateBeats y = Planners.of(9, 4, 11, 3, 8, 8);
+                        y.setScreen(plate, p, q);
+                        long rank = (y.allBands() * 1000L + Math.abs(p * p + q * q - own)) * 10000 + 100 * p + q;
                         due = Math.min(due, rank);
-                        x.undo();
                     }
                 }
             }
