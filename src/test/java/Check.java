@@ -1,6 +1,6 @@
 /** Counts answers and prints those that are not the ones that are due. */
 final class Check {
-    private static final int MOST_PRINTED = 500;
+    private static final int MOST_PRINTED = 50;
     private static int right = 0;
     private static int wrong = 0;
 

@@ -6,6 +6,7 @@ final class ErrorBoundaries {
     private static final int STATE = PlateBeats.ILLEGAL_STATE;
     private static final int FULL = PlateBeats.CAPACITY_EXCEEDED;
     private static final int NONE = PlateBeats.NONE;
+    private static final int MOST_STATES = 5;
 
     private interface Call {
         long ask(PlateBeats x);
@@ -54,21 +55,17 @@ final class ErrorBoundaries {
     /** All that a planner answers, in its present state, after every undo, and after restoring each slot. */
     private static String dump(Supplier<PlateBeats> maker) {
         StringBuilder text = new StringBuilder();
-        PlateBeats now = maker.get();
-        dumpState(now, text);
-        text.append(now.setOrder(1)).append(' ').append(now.setLimits(1, 2));
-        PlateBeats past = maker.get();
-        while (past.undo() >= 0) {
+        for (int undone = 0; undone <= MOST_STATES; undone++) {
+            PlateBeats past = maker.get();
+            for (int k = 0; k < undone; k++) {
+                text.append(past.undo()).append(' ');
+            }
             dumpState(past, text);
-            text.append(past.setOrder(1)).append(' ').append(past.setLimits(1, 2));
-            past.undo();
-            past.undo();
         }
         for (int slot = 0; slot < 2; slot++) {
             PlateBeats kept = maker.get();
             text.append("\nslot ").append(kept.restore(slot));
             dumpState(kept, text);
-            text.append(kept.setOrder(1)).append(' ').append(kept.setLimits(1, 2));
         }
         return text.toString();
     }
@@ -79,6 +76,7 @@ final class ErrorBoundaries {
             text.append(" (").append(x.cellP(plate)).append(", ").append(x.cellQ(plate)).append(')');
         }
         text.append(' ').append(x.allBands()).append(' ').append(x.worstPeriod()).append(' ');
+        text.append(x.setOrder(1)).append(' ').append(x.setLimits(1, 2));
     }
 
     private static Supplier<PlateBeats> after(Supplier<PlateBeats> maker, Call call) {

@@ -179,9 +179,9 @@ final class HistoryBoundaries {
         x.setLimits(20, 30);
         x.undo();
         x.undo();
-        b.beyond("the order is of it", x.setOrder(1), 1)
+        b.beyond("the long limit is of it", x.longLimit(), 500)
+                .beyond("the order is of it", x.setOrder(1), 1)
                 .beyond("the fine limit is of it", x.setLimits(10, 500), 10)
-                .beyond("the long limit is of it", x.longLimit(), 500)
                 .beyond("the plates are of it", x.plateCount(), 2);
     }
 

@@ -2,8 +2,12 @@ import com.sun.source.tree.ClassTree;
 import com.sun.source.tree.CompilationUnitTree;
 import com.sun.source.tree.MethodInvocationTree;
 import com.sun.source.tree.MethodTree;
+import com.sun.source.tree.NewArrayTree;
+import com.sun.source.tree.NewClassTree;
+import com.sun.source.tree.Tree;
 import com.sun.source.tree.VariableTree;
 import com.sun.source.util.JavacTask;
+import com.sun.source.util.TreePath;
 import com.sun.source.util.TreePathScanner;
 import com.sun.source.util.Trees;
 import java.io.File;
@@ -18,13 +22,19 @@ import javax.tools.JavaCompiler;
 import javax.tools.StandardJavaFileManager;
 import javax.tools.ToolProvider;
 
-/** The numbers in rule 11 of LANGUAGE.md, and rule 8 for a program without recursion, on the compiler's own tree. */
+/**
+ * Rules of LANGUAGE.md on the compiler's own tree: the types of rule 3 and the library of rule 4 (of both only what the
+ * program uses), rule 8 for a program without recursion, the numbers of rule 11, and rule 12: no call makes anything.
+ */
 final class LanguageTreeTest {
     private static final int MOST_PARAMETERS = 7;
     private static final int MOST_LINES = 60;
     private static final int DEEPEST = 8;
     private static final int MOST_CLASSES = 12;
     private static final int MOST_FIELDS = 20;
+    private static final Set<String> TYPES = Set.of("int", "long", "boolean", "int[]", "boolean[]", "PlateBeats.State",
+            "PlateBeats.State[]", "PlateBeats.Group");
+    private static final Set<String> LIBRARY = Set.of("java.lang.Math.abs(int)", "java.lang.Object.Object()");
 
     private LanguageTreeTest() {
     }
@@ -80,7 +90,31 @@ final class LanguageTreeTest {
         }
 
         @Override
+        public Void visitNewClass(NewClassTree tree, String within) {
+            Check.holds("rule 12: made outside a constructor: " + tree, isMadeAtFirst());
+            return super.visitNewClass(tree, within);
+        }
+
+        @Override
+        public Void visitNewArray(NewArrayTree tree, String within) {
+            Check.holds("rule 12: made outside a constructor: " + tree, isMadeAtFirst());
+            return super.visitNewArray(tree, within);
+        }
+
+        /** In a field's first value or in a constructor. */
+        private boolean isMadeAtFirst() {
+            for (TreePath path = getCurrentPath(); path != null; path = path.getParentPath()) {
+                if (path.getLeaf().getKind() == Tree.Kind.METHOD) {
+                    return ((MethodTree) path.getLeaf()).getReturnType() == null;
+                }
+            }
+            return true;
+        }
+
+        @Override
         public Void visitVariable(VariableTree tree, String within) {
+            String type = trees.getTypeMirror(getCurrentPath()).toString();
+            Check.holds("rule 3: " + type + " " + tree.getName(), TYPES.contains(type));
             if (within == null && !tree.getModifiers().getFlags().contains(Modifier.STATIC)) {
                 String owner = trees.getElement(getCurrentPath()).getEnclosingElement().toString();
                 fieldsOf.merge(owner, 1, Integer::sum);
@@ -103,8 +137,12 @@ final class LanguageTreeTest {
 
         @Override
         public Void visitMethodInvocation(MethodInvocationTree tree, String within) {
+            Element called = trees.getElement(getCurrentPath());
+            String owner = called.getEnclosingElement().toString();
+            boolean own = owner.equals("PlateBeats") || owner.startsWith("PlateBeats.");
+            Check.holds("rule 4: " + owner + "." + called, own || LIBRARY.contains(owner + "." + called));
             if (within != null) {
-                callsOf.get(within).add(name(trees.getElement(getCurrentPath())));
+                callsOf.get(within).add(name(called));
             }
             return super.visitMethodInvocation(tree, within);
         }

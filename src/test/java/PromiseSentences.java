@@ -42,6 +42,7 @@ final class PromiseSentences {
         byAngle();
         setOrder();
         setLimits();
+        longLimit();
         combination(15, "Returns the numerator of the square of a combination.", "Returns the numerator;",
                 PlateBeats::squareNumerator, 17);
         combination(16, "Returns the denominator of the square of a combination.", "Returns the denominator;",
@@ -105,13 +106,13 @@ final class PromiseSentences {
     private static void commonTile() {
         PlateBeats x = new PlateBeats();
         Sentence s = new Sentence("Returns the common tile of all plates.", 10);
-        int[][] plates = {{5, 5, 10}, {6, 0, 30}, {7, 2, 1590}, {2, 7, 1590}};
+        int[][] plates = {{5, 5, 10}, {6, 0, 30}, {7, 2, 1590}, {4, 1, 27030}};
         for (int[] plate : plates) {
             x.addPlate(plate[0], plate[1]);
             s.due("with (" + plate[0] + ", " + plate[1] + ")", x.commonTile(), plate[2]);
         }
         x.removePlate(0);
-        s.due("without (5, 5)", x.commonTile(), 318);
+        s.due("without (5, 5)", x.commonTile(), 5406);
     }
 
     private static void byAngle() {
@@ -135,6 +136,15 @@ final class PromiseSentences {
                 .due("fine out of range", x.setLimits(1001, 3000), BAD).due("long out of range", x.setLimits(40, 40), BAD)
                 .due("long out of range", x.setLimits(40, 10001), BAD).due("to 50", x.setLimits(50, 60), 20)
                 .due("to 50 again", x.setLimits(50, 70), 50);
+    }
+
+    private static void longLimit() {
+        PlateBeats x = new PlateBeats();
+        Sentence s = new Sentence("Returns the long limit.", 14).due("at first", x.longLimit(), 500);
+        for (int limit : new int[] {2, 3, 11, 499, 501, 1000, 1001, 9999, 10000}) {
+            x.setLimits(1, limit);
+            s.due("set", x.longLimit(), limit);
+        }
     }
 
     /** The due is that of u(0) + u(1) of (15, 5) and (5, 0), whose square is 17 / 250. */
@@ -228,7 +238,8 @@ final class PromiseSentences {
      * Three plates (20, 20) have only fine ones with these limits.
      */
     private static void triple() {
-        Sentence plates = new Sentence("- `i`: a plate - `j`: another plate, greater than i - `k`: another plate, greater than j", 25);
+        Sentence plates = new Sentence("- `i`: a plate - `j`: another plate, greater than i "
+                + "- `k`: another plate, greater than j", 25);
         Sentence bands = new Sentence("Returns the number of the bands of these three plates;", 25);
         int[][] triples = {{0, 1, 2}, {0, 1, 3}, {0, 2, 3}, {1, 2, 3}};
         for (int[] t : triples) {
@@ -288,7 +299,8 @@ final class PromiseSentences {
     private static void worstPair() {
         Sentence most = new Sentence("Finds the pair of plates with the most bands (also if no pair has any), "
                 + "of several the first one by the first plate, then by the second one.", 29);
-        Sentence number = new Sentence("Returns 10 times the first plate plus the second one; NONE if there are less than two plates.", 29);
+        Sentence number = new Sentence("Returns 10 times the first plate plus the second one; "
+                + "NONE if there are less than two plates.", 29);
         for (int first = 0; first < 4; first++) {
             for (int second = first + 1; second < 4; second++) {
                 PlateBeats x = Planners.limited(3, 5, 1, 0, 1, 0, 1, 0, 1, 0);
@@ -304,15 +316,20 @@ final class PromiseSentences {
         number.due("one plate", Planners.of(15, 5).worstPair(), NONE).due("no plates", new PlateBeats().worstPair(), NONE);
     }
 
+    /** The plates of the search: with these limits each pair and the triple have bands. */
+    private static PlateBeats three(int fine, int longLimit) {
+        return Planners.limited(fine, longLimit, 15, 5, 5, 0, 4, 4);
+    }
+
     /** Of all screens in the range, tried one by one: how many bands, how far from its own area, then p, then q. */
     private static int[] tried(int fine, int longLimit, int plate, int low, int high) {
         int[] best = {Integer.MAX_VALUE, 0, 0, 0};
-        int own = known(fine, longLimit).cellArea(plate);
+        int own = three(fine, longLimit).cellArea(plate);
         for (int p = 1; p <= 20; p++) {
             for (int q = 0; q <= 20; q++) {
                 int area = p * p + q * q;
                 if (area >= low && area <= high) {
-                    PlateBeats x = known(fine, longLimit);
+                    PlateBeats x = three(fine, longLimit);
                     x.setScreen(plate, p, q);
                     int[] found = {x.allBands(), Math.abs(area - own), p, q};
                     best = Arrays.compare(found, best) < 0 ? found : best;
@@ -324,10 +341,10 @@ final class PromiseSentences {
 
     private static void bestScreen() {
         Sentence best = new Sentence("Finds the best screen for a plate.", 30);
-        int[][] rows = {{3, 5, 0, 200, 300}, {3, 5, 1, 20, 30}, {2, 8, 0, 100, 800}, {2, 8, 1, 1, 60}};
+        int[][] rows = {{3, 5, 0, 200, 300}, {3, 5, 1, 20, 30}, {2, 8, 0, 100, 800}, {2, 8, 1, 1, 60}, {3, 9, 2, 10, 90}};
         for (int[] row : rows) {
             int[] due = tried(row[0], row[1], row[2], row[3], row[4]);
-            best.due(Arrays.toString(row), known(row[0], row[1]).bestScreen(row[2], row[3], row[4]), 100 * due[2] + due[3]);
+            best.due(Arrays.toString(row), three(row[0], row[1]).bestScreen(row[2], row[3], row[4]), 100 * due[2] + due[3]);
         }
         Sentence number = new Sentence("Returns 100 times p plus q;", 30);
         for (int area = 1; area <= 800; area++) {
@@ -348,15 +365,17 @@ final class PromiseSentences {
     }
 
     private static void bandsWithBest() {
-        Sentence s = new Sentence("Returns the number; INVALID_ARGUMENT if there is no such plate or another argument is out of range; "
-                + "NONE if no cell vector has such an area.", 31);
-        int[][] rows = {{3, 5, 0, 250, 250}, {3, 5, 1, 20, 30}, {2, 8, 0, 100, 800}, {2, 8, 1, 1, 60}, {2, 8, 1, 25, 25}};
+        Sentence s = new Sentence("Returns the number; INVALID_ARGUMENT if there is no such plate "
+                + "or another argument is out of range; NONE if no cell vector has such an area.", 31);
+        int[][] rows = {{3, 5, 0, 250, 250}, {3, 5, 1, 20, 30}, {2, 8, 0, 100, 800}, {2, 8, 1, 1, 60}, {2, 8, 1, 25, 25},
+            {3, 9, 2, 10, 90}};
         for (int[] row : rows) {
             int due = tried(row[0], row[1], row[2], row[3], row[4])[0];
-            s.due(Arrays.toString(row), known(row[0], row[1]).bandsWithBest(row[2], row[3], row[4]), due);
+            s.due(Arrays.toString(row), three(row[0], row[1]).bandsWithBest(row[2], row[3], row[4]), due);
         }
-        s.due("no plate 2", known(3, 5).bandsWithBest(2, 1, 800), BAD).due("low", known(3, 5).bandsWithBest(0, 0, 800), BAD)
-                .due("high", known(3, 5).bandsWithBest(0, 1, 801), BAD).due("no such area", known(3, 5).bandsWithBest(0, 3, 3), NONE);
+        s.due("no plate 3", three(3, 5).bandsWithBest(3, 1, 800), BAD).due("low", known(3, 5).bandsWithBest(0, 0, 800), BAD)
+                .due("high", known(3, 5).bandsWithBest(0, 1, 801), BAD)
+                .due("no such area", known(3, 5).bandsWithBest(0, 3, 3), NONE);
     }
 
     private static void save() {

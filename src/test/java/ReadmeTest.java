@@ -109,7 +109,8 @@ final class ReadmeTest {
     private static void everyCallIsShown(List<Matcher> calls) {
         for (Method method : PlateBeats.class.getDeclaredMethods()) {
             if (Modifier.isPublic(method.getModifiers())) {
-                Check.holds("README.md shows " + method.getName(), calls.stream().anyMatch(c -> c.group(3).equals(method.getName())));
+                boolean shown = calls.stream().anyMatch(call -> call.group(3).equals(method.getName()));
+                Check.holds("README.md shows " + method.getName(), shown);
             }
         }
     }

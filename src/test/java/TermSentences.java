@@ -1,3 +1,8 @@
+import java.math.BigInteger;
+import java.util.ArrayList;
+import java.util.Arrays;
+import java.util.List;
+
 /**
  * The sentences of "What it is" and of "Terms" that name no boundary. The dues are worked out by hand or by the
  * sentence's own words, never by the formulas of the program.
@@ -32,6 +37,9 @@ final class TermSentences {
         square();
         combinationsOfThree();
         beatOfThree();
+        everyAction();
+        wholeState();
+        twoSlots();
         invalidArgument();
         illegalState();
         capacityExceeded();
@@ -50,12 +58,13 @@ final class TermSentences {
 
     /** A turn by a right angle, which leaves a square grid as it is, leaves every square as it is. */
     private static void squareGrid() {
-        Sentence s = new Sentence("Each plate has a square grid of dots, which is given by a cell vector in device pixels.", 6, 7, 15, 16);
+        Sentence s = new Sentence("Each plate has a square grid of dots, which is given by a cell vector in device pixels.",
+                6, 7, 15, 16);
         PlateBeats given = Planners.of(7, 2, 4, 6);
         s.due("p", given.cellP(0), 7).due("q", given.cellQ(0), 2).due("p", given.cellP(1), 4).due("q", given.cellQ(1), 6);
         for (int[] n : numbers(2)) {
             PlateBeats x = Planners.limitedAtOrder2(10, 500, 7, 2, 4, 6);
-            String what = java.util.Arrays.toString(n);
+            String what = Arrays.toString(n);
             s.due(what + " turned: numerator", x.squareNumerator(0, 1, -n[1], n[0], -n[3], n[2]),
                     x.squareNumerator(0, 1, n[0], n[1], n[2], n[3]));
             s.due(what + " turned: denominator", x.squareDenominator(0, 1, -n[1], n[0], -n[3], n[2]),
@@ -64,8 +73,8 @@ final class TermSentences {
     }
 
     /** All a, b, c, d of an order, but for those with a and b or c and d both 0. */
-    private static java.util.List<int[]> numbers(int order) {
-        java.util.List<int[]> all = new java.util.ArrayList<>();
+    private static List<int[]> numbers(int order) {
+        List<int[]> all = new ArrayList<>();
         for (int a = -order; a <= order; a++) {
             for (int b = -order; b <= order; b++) {
                 for (int c = -order; c <= order; c++) {
@@ -185,8 +194,8 @@ final class TermSentences {
     }
 
     private static void tile() {
-        Sentence s = new Sentence("The tile of a plate is the side of the smallest square with sides along the axes in which its grid "
-                + "repeats: A divided by the greatest common divisor of p and q (which is p if q is 0).", 9);
+        Sentence s = new Sentence("The tile of a plate is the side of the smallest square with sides along the axes "
+                + "in which its grid repeats: A divided by the greatest common divisor of p and q (which is p if q is 0).", 9);
         for (int p = 1; p <= 20; p++) {
             for (int q = 0; q <= 20; q++) {
                 int side = 1;
@@ -205,7 +214,7 @@ final class TermSentences {
         for (int k = 0; k < byAngle.length; k++) {
             for (int m = 0; m < byAngle.length; m++) {
                 PlateBeats x = Planners.of(byAngle[k][0], byAngle[k][1], byAngle[m][0], byAngle[m][1]);
-                String what = java.util.Arrays.toString(byAngle[k]) + ", " + java.util.Arrays.toString(byAngle[m]);
+                String what = Arrays.toString(byAngle[k]) + ", " + Arrays.toString(byAngle[m]);
                 s.due("first of " + what, x.byAngle(0), k <= m ? 0 : 1);
                 s.due("second of " + what, x.byAngle(1), k <= m ? 1 : 0);
             }
@@ -213,7 +222,7 @@ final class TermSentences {
     }
 
     private static void square(Sentence s, PlateBeats x, int[] n, long numerator, long denominator) {
-        String what = java.util.Arrays.toString(n);
+        String what = Arrays.toString(n);
         s.due("numerator of " + what, x.squareNumerator(0, 1, n[0], n[1], n[2], n[3]), numerator);
         s.due("denominator of " + what, x.squareDenominator(0, 1, n[0], n[1], n[2], n[3]), denominator);
     }
@@ -266,9 +275,10 @@ final class TermSentences {
             long x = (n[0] * i[0] - n[1] * i[1]) * areaJ - (n[2] * j[0] - n[3] * j[1]) * areaI;
             long y = (n[0] * i[1] + n[1] * i[0]) * areaJ - (n[2] * j[1] + n[3] * j[0]) * areaI;
             long sum = x * x + y * y;
-            long common = java.math.BigInteger.valueOf(sum).gcd(java.math.BigInteger.valueOf(areaI * areaI * areaJ * areaJ)).longValue();
+            long divisor = areaI * areaI * areaJ * areaJ;
+            long common = BigInteger.valueOf(sum).gcd(BigInteger.valueOf(divisor)).longValue();
             PlateBeats planner = Planners.limitedAtOrder2(10, 500, i[0], i[1], j[0], j[1]);
-            square(s, planner, n, sum / common, areaI * areaI * areaJ * areaJ / common);
+            square(s, planner, n, sum / common, divisor / common);
         }
     }
 
@@ -287,7 +297,8 @@ final class TermSentences {
     }
 
     private static void square() {
-        Sentence s = new Sentence("The square of a combination is the sum of the squares of both parts of its beat, a fraction.", 15, 16);
+        Sentence s = new Sentence("The square of a combination is the sum of the squares of both parts of its beat, a fraction.",
+                15, 16);
         PlateBeats x = Planners.of(10, 0, 5, 5);
         square(s, x, new int[] {1, 0, 0, -1}, 1, 100);
         square(s, x, new int[] {1, 0, -1, 0}, 1, 20);
@@ -298,8 +309,8 @@ final class TermSentences {
 
     /** Three equal plates (10, 0): of the 64 sums 4 times 9 have the square 1 / 100, 4 times 6 have 5 / 100, 4 have 9 / 100. */
     private static void combinationsOfThree() {
-        new Sentence("A combination of three plates i, j, k (i less than j, j less than k) consists of one vector for each of them, "
-                + "which is u, v, -u or -v of this plate.", 25)
+        new Sentence("A combination of three plates i, j, k (i less than j, j less than k) consists of one vector "
+                + "for each of them, which is u, v, -u or -v of this plate.", 25)
                 .due("all 64", Planners.limited(3, 11, 10, 0, 10, 0, 10, 0).tripleBands(0, 1, 2), 64)
                 .due("9 / 100 alone", Planners.limited(3, 4, 10, 0, 10, 0, 10, 0).tripleBands(0, 1, 2), 4)
                 .due("5 / 100 alone", Planners.limited(4, 10, 10, 0, 10, 0, 10, 0).tripleBands(0, 1, 2), 24)
@@ -320,17 +331,114 @@ final class TermSentences {
         Sentence s = new Sentence("Its beat is the sum of these three vectors.", 25);
         for (int[] screen : screens) {
             for (int[] row : limits) {
-                String what = java.util.Arrays.toString(screen) + ", limits " + row[0] + ", " + row[1];
+                String what = Arrays.toString(screen) + ", limits " + row[0] + ", " + row[1];
                 s.due(what, Planners.limited(row[0], row[1], screen).tripleBands(0, 1, 2), row[2]);
             }
         }
     }
 
+    private interface Action {
+        long ask(PlateBeats x, int time);
+    }
+
+    /** Every action, done once to seven times, and all of them undone: what is there is as it was before the latest five. */
+    private static void everyAction() {
+        Sentence s = new Sentence("Every successful call of a method that is called an action records the state before it (also if "
+                + "nothing changes by it); when a sixth one is recorded, the oldest one is dropped.", 2, 3, 4, 12, 13, 33, 34, 35);
+        everyAction(s, "setScreen", (x, time) -> x.setScreen(0, time, time));
+        everyAction(s, "setScreen without a change", (x, time) -> x.setScreen(0, 15, 5));
+        everyAction(s, "setOrder", (x, time) -> x.setOrder(1 + time % 2));
+        everyAction(s, "setOrder without a change", (x, time) -> x.setOrder(2));
+        everyAction(s, "setLimits", (x, time) -> x.setLimits(time, 30 + time));
+        everyAction(s, "setLimits without a change", (x, time) -> x.setLimits(3, 40));
+        everyAction(s, "restore", (x, time) -> x.restore(time % 2));
+        everyAction(s, "addPlate and removePlate", (x, time) -> time % 2 == 1 ? x.addPlate(time, 2) : x.removePlate(0));
+        everyAction(s, "removePlate and addPlate", (x, time) -> time % 2 == 0 ? x.addPlate(time, 2) : x.removePlate(1));
+    }
+
+    /** As new, but slot 0 keeps two plates with the order 2 and the limits 3 and 40, slot 1 the state of a new object. */
+    private static PlateBeats prepared() {
+        PlateBeats x = new PlateBeats();
+        x.save(1);
+        x.addPlate(15, 5);
+        x.addPlate(5, 0);
+        x.setOrder(2);
+        x.setLimits(3, 40);
+        x.save(0);
+        for (int k = 0; k < 4; k++) {
+            x.undo();
+        }
+        return x;
+    }
+
+    private static void everyAction(Sentence s, String name, Action action) {
+        for (int times = 1; times <= 7; times++) {
+            PlateBeats x = prepared();
+            x.restore(0);
+            PlateBeats before = prepared();
+            before.restore(0);
+            for (int time = 1; time <= times; time++) {
+                s.holds(name + " succeeds", action.ask(x, time) >= 0);
+                if (time <= times - 5) {
+                    action.ask(before, time);
+                }
+            }
+            int kept = Math.min(times, 5);
+            s.due(name + ": history", x.historySize(), Math.min(times + 1, 5));
+            for (int k = 0; k < kept; k++) {
+                x.undo();
+            }
+            sameState(s, name + ", " + times + " times, undone", x, before);
+        }
+    }
+
+    private static void sameState(Sentence s, String what, PlateBeats x, PlateBeats due) {
+        s.due(what + ": plates", x.plateCount(), due.plateCount());
+        for (int plate = 0; plate < 4; plate++) {
+            s.due(what + ": p", x.cellP(plate), due.cellP(plate)).due(what + ": q", x.cellQ(plate), due.cellQ(plate));
+        }
+        s.due(what + ": long limit", x.longLimit(), due.longLimit());
+        s.due(what + ": fine limit", x.setLimits(9, 10), due.setLimits(9, 10));
+        s.due(what + ": order", x.setOrder(1), due.setOrder(1));
+    }
+
+    /** Plates, order and limits are of the state: undo and restore bring them back; history and slots are not. */
+    private static void wholeState() {
+        Sentence s = new Sentence("A history of at most 5 states is kept; a state is everything but the history and the slots.",
+                33, 34, 35);
+        for (int slot = 0; slot < 2; slot++) {
+            PlateBeats x = prepared();
+            s.due("slot 0", x.restore(0), 2).due("history", x.historySize(), 1).due("long limit", x.longLimit(), 40);
+            s.due("fine limit", x.setLimits(50, 60), 3).due("order", x.setOrder(1), 2).due("area", x.setScreen(1, 9, 9), 25);
+            s.due("plates", x.removePlate(0), 1).due("history", x.historySize(), 5);
+            x.save(slot);
+            s.due("undo", x.undo(), 4).due("plates", x.plateCount(), 2).due("undo", x.undo(), 3).due("area", x.cellArea(1), 25);
+            s.due("undo", x.undo(), 2).due("long limit", x.longLimit(), 60);
+            s.due("undo", x.undo(), 1).due("long limit", x.longLimit(), 40);
+            s.due("the slot stays", x.restore(slot), 1).due("the history is not of the state", x.historySize(), 2);
+            s.due("its long limit", x.longLimit(), 60).due("its fine limit", x.setLimits(1, 2), 50);
+            s.due("its order", x.setOrder(2), 1).due("its area", x.cellArea(0), 162);
+            s.due("the other slot", x.restore(1 - slot), slot == 0 ? 0 : 2).due("history", x.historySize(), 5);
+        }
+    }
+
+    private static void twoSlots() {
+        PlateBeats x = Planners.of(15, 5);
+        Sentence s = new Sentence("There are two slots, 0 and 1, empty at first; a slot keeps a copy of a state.", 32, 33)
+                .due("slot 0 at first", x.restore(0), STATE).due("slot 1 at first", x.restore(1), STATE)
+                .due("no slot -1", x.save(-1), BAD).due("no slot 2", x.save(2), BAD).due("to slot 1", x.save(1), 1);
+        x.addPlate(5, 0);
+        s.due("slot 0 is empty", x.restore(0), STATE).due("to slot 0", x.save(0), 2);
+        x.setScreen(0, 1, 1);
+        s.due("slot 1", x.restore(1), 1).due("its copy", x.cellArea(0), 250);
+        s.due("slot 0", x.restore(0), 2).due("its copy", x.cellArea(0), 250).due("its copy", x.cellArea(1), 25);
+    }
+
     private static void invalidArgument() {
         PlateBeats x = Planners.equal(2);
         Sentence range = new Sentence("The constants: `INVALID_ARGUMENT = -1`: An argument is out of range, "
-                + "or names something that does not exist.", 2, 3, 4, 6, 7, 8, 9, 11, 12, 13, 15, 16, 17, 18, 19, 20, 21, 22, 23, 24,
-                25, 30, 31, 32, 33);
+                + "or names something that does not exist.", 2, 3, 4, 6, 7, 8, 9, 11, 12, 13, 15, 16, 17, 18, 19, 20, 21, 22, 23,
+                24, 25, 30, 31, 32, 33);
         range.due("addPlate", x.addPlate(0, 0), -1).due("setScreen: plate", x.setScreen(2, 1, 0), -1)
                 .due("setScreen: p", x.setScreen(0, 21, 0), -1).due("removePlate", x.removePlate(2), -1)
                 .due("cellP", x.cellP(2), -1).due("cellQ", x.cellQ(2), -1).due("cellArea", x.cellArea(2), -1)
